@@ -70,6 +70,9 @@ public final class AskedTest {
         bank.fresh(0, 0b00101111);
         Check.same("stale ones are not bought", bank.ofSecret(0, 7), 20 + 20 + 20 + 30);
         Check.same("who", bank.ofSecret(0, 8), 0b00101011);
+        bank.flood(2);
+        Check.same("of just enough", bank.ofSecret(0, 7), 20 + 20 + 20 + 30);
+        Check.same("all", bank.ofSecret(0, 8), 0b00101011);
         bank.flood(1);
         Check.same("too few", bank.ofSecret(0, 7), -1);
         Check.same("nobody", bank.ofSecret(0, 8), 0);

@@ -41,6 +41,13 @@ final class Check {
         refuses(call, bank, it, IllegalStateException.class);
     }
 
+    /** The name of the exception; it must come from a throw of Threeboxes, not from the machine or its library. */
+    static String nameOf(RuntimeException e) {
+        StackTraceElement[] trace = e.getStackTrace();
+        boolean isOwn = trace.length > 0 && trace[0].getClassName().startsWith("Threeboxes");
+        return isOwn ? e.getClass().getName() : e.getClass().getName() + " of the machine";
+    }
+
     /** The call must throw just this, and leave the bank as it was. */
     private static void refuses(String call, Threeboxes bank, Runnable it, Class<?> due) {
         String before = State.of(bank);
@@ -48,7 +55,7 @@ final class Check {
         try {
             it.run();
         } catch (RuntimeException e) {
-            got = e.getClass().getName();
+            got = nameOf(e);
         }
         same(call, got, due.getName());
         same(call + " changed something", State.of(bank), before);

@@ -100,13 +100,14 @@ public final class SoundTest {
         Check.same("a share of -1", bank.isSound(), false);
         changeShare(bank, 4, 96);
         Check.same("a share of 96", bank.isSound(), true);
-        Object one = ((List<?>) read(bank, "keeperList")).get(2);
-        write(one, "lie", 97);
-        Check.same("a lie of 97", bank.isSound(), false);
-        write(one, "lie", -1);
-        Check.same("a lie of -1", bank.isSound(), false);
-        write(one, "lie", 96);
-        Check.same("a lie of 96", bank.isSound(), true);
+        for (Object one : (List<?>) read(bank, "keeperList")) {
+            write(one, "lie", 97);
+            Check.same("a lie of 97", bank.isSound(), false);
+            write(one, "lie", -1);
+            Check.same("a lie of -1", bank.isSound(), false);
+            write(one, "lie", 96);
+            Check.same("a lie of 96", bank.isSound(), true);
+        }
     }
 
     private static void aChangedTreeIsNotSound() throws ReflectiveOperationException {
@@ -115,11 +116,17 @@ public final class SoundTest {
         Object register = read(bank, "register");
         for (String row : new String[] {"kinds", "subjects", "days", "tree"}) {
             int[] numbers = (int[]) read(register, row);
-            numbers[1]++;
-            Check.same("one of the " + row + " changed", bank.isSound(), false);
-            numbers[1]--;
-            Check.same("changed back", bank.isSound(), true);
+            for (int n : row.equals("tree") ? new int[] {1, 3, 33, 64, 65} : new int[] {0, 1}) {
+                numbers[n]++;
+                Check.same("number " + n + " of the " + row + " changed", bank.isSound(), false);
+                numbers[n]--;
+                Check.same("changed back", bank.isSound(), true);
+            }
         }
+        // A leaf in the tree is no part of what digest() adds, but for what isSound() says of it.
+        long digest = bank.digest();
+        ((int[]) read(register, "tree"))[64]++;
+        Check.same("digest() of one that is not sound", bank.digest(), digest - 1);
     }
 
     private static void noMoreThan64EntriesAreSound() throws ReflectiveOperationException {

@@ -201,6 +201,8 @@ public final class WouldTest {
         Check.same("3 and 5", bank.fewest(1), 0b10010);
         bank.deal(0, 1, 1, 0, 0b01100);
         Check.same("of like price the smaller set", bank.fewest(2), 0b00100);
+        bank.deal(0, 1, 1, 0, 1);
+        Check.same("the first alone", bank.fewest(3), 1);
     }
 
     private static void provesTells() {
