@@ -49,7 +49,7 @@ final class Check {
     }
 
     /** The call must throw just this, and leave the bank as it was. */
-    private static void refuses(String call, Threeboxes bank, Runnable it, Class<?> due) {
+    static void refuses(String call, Threeboxes bank, Runnable it, Class<?> due) {
         String before = State.of(bank);
         String got = "nothing thrown";
         try {

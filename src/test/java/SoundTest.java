@@ -8,6 +8,10 @@ public final class SoundTest {
         aShareOffTheCurveIsNotSound();
         staleSharesMayBeOffTheCurve();
         afterARebuildingByLiarsSharesMayBeOffTheCurve();
+        justThresholdAreAlwaysOnOneCurve();
+        whoIsNotOfTheGroupDoesNotExempt();
+        aRefusedRebuildingDoesNotExempt();
+        anyLieExempts();
         aShareOfALaterEpochIsNotSound();
         numbersAreZeroTo96();
         aChangedTreeIsNotSound();
@@ -80,6 +84,67 @@ public final class SoundTest {
         bank.deal(1, 1, 1, 0, 15);
         changeShare(bank, 1, 3, 50);
         Check.same("of another secret it is", bank.isSound(), false);
+    }
+
+    private static void justThresholdAreAlwaysOnOneCurve() throws ReflectiveOperationException {
+        for (int t = 1; t <= 4; t++) {
+            for (int n = t; n <= 8; n++) {
+                Threeboxes bank = Banks.ofZones(0, 1, 2, 3, 0, 1, 2, 3);
+                bank.deal(96, t, 1, 0, (1 << n) - 1);
+                changeShare(bank, n - 1, (bank.share(0, n - 1, 0) + 1) % 97);
+                Check.same(n + " of the order " + t + ", the last one changed", bank.isSound(), n == t);
+            }
+        }
+        Threeboxes bank = Banks.ofFive();
+        for (int zone = 0; zone <= 2; zone++) {
+            bank.flood(zone);
+            Check.same("after a flood of " + zone, bank.isSound(), true);
+        }
+    }
+
+    private static void whoIsNotOfTheGroupDoesNotExempt() throws ReflectiveOperationException {
+        Threeboxes bank = Banks.ofZones(0, 1, 2, 3, 0, 1, 2, 3);
+        bank.deal(42, 2, 1, 0, 0b00011111);
+        bank.fresh(0, 0b00001111);
+        bank.flood(3);
+        bank.lie(3, 1);
+        bank.lie(4, 1);
+        bank.lie(5, 1);
+        bank.rebuild(0, 6, 255);
+        changeShare(bank, 6, (bank.share(0, 6, 0) + 1) % 97);
+        Check.same("who lied has none, a stale one, a lost one", bank.isSound(), false);
+    }
+
+    private static void aRefusedRebuildingDoesNotExempt() throws ReflectiveOperationException {
+        Threeboxes bank = Banks.ofFive();
+        bank.flood(2);
+        bank.lie(0, 1);
+        Check.noState("four with a liar", bank, () -> bank.rebuild(0, 4, 15));
+        Check.noState("it has one", bank, () -> bank.rebuild(0, 1, 0b01101));
+        Check.noArgument("no set", bank, () -> bank.rebuild(0, 4, 32));
+        changeShare(bank, 3, 53);
+        Check.same("after rebuildings that were refused", bank.isSound(), false);
+    }
+
+    private static void anyLieExempts() throws ReflectiveOperationException {
+        for (int lie : new int[] {0, 1, 48, 95, 96}) {
+            for (int who = 0; who < 4; who++) {
+                Threeboxes bank = Banks.ofZones(0, 1, 2, 3, 0);
+                bank.deal(42, 1, 1, 0, 15);
+                bank.lie(who, lie);
+                bank.rebuild(0, 4, 15);
+                bank.lie(who, 0);
+                changeShare(bank, 4, 43);
+                Check.same("after a LIE of " + lie + " by " + who, bank.isSound(), lie != 0);
+                changeShare(bank, 4, 97);
+                Check.same("a share of 97 is not sound for all that", bank.isSound(), false);
+                changeShare(bank, 4, -1);
+                Check.same("nor one of -1", bank.isSound(), false);
+                changeShare(bank, 4, 42);
+                epochs(bank)[4] = 1;
+                Check.same("nor one of a later epoch", bank.isSound(), false);
+            }
+        }
     }
 
     private static void aShareOfALaterEpochIsNotSound() throws ReflectiveOperationException {
