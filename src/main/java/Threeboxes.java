@@ -931,7 +931,7 @@ public final class Threeboxes {
             tree = new int[2 * MOST];
             count = 0;
             for (int node = MOST - 1; node >= 1; node--) {
-                tree[node] = join(tree[2 * node], tree[2 * node + 1]);
+                joinAt(node);
             }
         }
 
@@ -951,12 +951,22 @@ public final class Threeboxes {
             subjects[count] = subject;
             days[count] = day;
             int node = MOST + count;
-            tree[node] = leafOf(count);
+            putAt(node, leafOf(count));
             for (int row = 0; row < ROWS; row++) {
                 node >>= 1;
-                tree[node] = join(nodeAt(2 * node), nodeAt(2 * node + 1));
+                joinAt(node);
             }
             count++;
+        }
+
+        private void joinAt(int node) {
+            putAt(node, join(nodeAt(2 * node), nodeAt(2 * node + 1)));
+        }
+
+        private void putAt(int node, int number) {
+            if (node >= 0 && node < tree.length) {
+                tree[node] = number;
+            }
         }
 
         private int nodeAt(int node) {

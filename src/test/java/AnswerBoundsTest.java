@@ -378,12 +378,11 @@ public final class AnswerBoundsTest {
         bank.fresh(2, 0b01111110);
         bank.freeze(1, 4, true);
         Check.same("of a liar, a freshening and a court", bank.digest(), digestOf(bank));
-        int n = 0;
-        while (bank.bank(4) < 64) {
+        for (int n = 7; n < 64; n++) {
             bank.open(n % 6, 255 - n % 9);
-            n++;
             Check.same("of the entry " + n, bank.digest(), digestOf(bank));
         }
+        Check.same("ENTRIES", bank.bank(4), 64);
         bank.flood(0);
         bank.flood(1);
         bank.knock();

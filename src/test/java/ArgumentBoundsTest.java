@@ -43,6 +43,7 @@ public final class ArgumentBoundsTest {
         ofAWideBank();
         ofAnEmptyBank();
         ofAFullBank();
+        setsOfEachNumberOfKeepers();
         Check.end();
     }
 
@@ -181,6 +182,30 @@ public final class ArgumentBoundsTest {
         Check.noArgument("would(5, 256, 0)", bank, () -> bank.would(5, 256, 0));
         Check.noArgument("may(5, 256, 0)", bank, () -> bank.may(5, 256, 0));
         Check.noArgument("fresh(5, 256)", bank, () -> bank.fresh(5, 256));
+    }
+
+    /** Of n keepers the sets are 0 to 2^n - 1: who comes later is no keeper yet. */
+    private static void setsOfEachNumberOfKeepers() {
+        Threeboxes bank = Banks.ofZones(0);
+        bank.deal(50, 1, 1, 0, 1);
+        for (int n = 1; n <= 8; n++) {
+            int all = (1 << n) - 1;
+            Check.same("open, of " + n, bank.open(0, all), 50);
+            Check.same("the GROUP, of " + n, bank.would(0, all, 0), 1);
+            Check.same("may, of " + n, bank.may(0, all, 50), true);
+            Check.same("fresh, of " + n, bank.fresh(0, all), 0);
+            for (int wrong : new int[] {-1, all + 1, all + 2, 2 * all + 2, 256, Integer.MIN_VALUE}) {
+                Check.noArgument(n + ": open(0, " + wrong + ")", bank, () -> bank.open(0, wrong));
+                Check.noArgument(n + ": would(0, " + wrong + ", 0)", bank, () -> bank.would(0, wrong, 0));
+                Check.noArgument(n + ": may(0, " + wrong + ", 0)", bank, () -> bank.may(0, wrong, 0));
+                Check.noArgument(n + ": fresh(0, " + wrong + ")", bank, () -> bank.fresh(0, wrong));
+                Check.noArgument(n + ": rebuild(0, 0, " + wrong + ")", bank, () -> bank.rebuild(0, 0, wrong));
+                Check.noArgument(n + ": deal to " + wrong, bank, () -> bank.deal(0, 1, 1, 0, wrong));
+            }
+            if (n < 8) {
+                bank.keeper(0, 1, 1);
+            }
+        }
     }
 
     private static void check(Maker maker, String name, Call call, int[] usual, Range... ranges) {

@@ -19,6 +19,13 @@ final class Banks {
         return bank;
     }
 
+    /** Days go by up to that day. */
+    static void goTo(Threeboxes bank, int day) {
+        for (int left = day - bank.bank(2); left > 0; left -= 365) {
+            bank.pass(Math.min(365, left));
+        }
+    }
+
     static void checkShares(String when, Threeboxes bank, int secret, int... due) {
         for (int k = 0; k < due.length; k++) {
             Check.same(when + ": SHARE of " + k, bank.share(secret, k, 0), due[k]);

@@ -54,22 +54,16 @@ public final class DoorBoundsTest {
         Check.same("one whose share is lost is not", bank.open(0, 15), -1);
     }
 
-    private static void goTo(Threeboxes bank, int day) {
-        while (bank.bank(2) < day) {
-            bank.pass(Math.min(365, day - bank.bank(2)));
-        }
-    }
-
     private static void dayIsDateOrLater() {
         for (int date : new int[] {0, 1, 2, 500, 998, 999}) {
             Threeboxes bank = ofEight();
             bank.deal(5, 1, 1, date, 255);
             if (date > 0) {
-                goTo(bank, date - 1);
+                Banks.goTo(bank, date - 1);
                 Check.same("a day ahead of " + date, bank.would(0, 255, 1), 0);
                 Check.same("a day ahead of " + date, bank.open(0, 255), -1);
             }
-            goTo(bank, date);
+            Banks.goTo(bank, date);
             Check.same("on " + date, bank.would(0, 255, 1), 1);
             Check.same("on " + date, bank.open(0, 255), 5);
             if (date < 999) {
@@ -123,7 +117,7 @@ public final class DoorBoundsTest {
     private static void dayIsZeroAtFirstAnd999AtMost() {
         Threeboxes bank = new Threeboxes();
         Check.same("DAY at first", bank.bank(2), 0);
-        goTo(bank, 998);
+        Banks.goTo(bank, 998);
         Check.noState("pass(2)", bank, () -> bank.pass(2));
         Check.noState("pass(365)", bank, () -> bank.pass(365));
         Check.same("pass(1)", bank.pass(1), 999);
@@ -134,10 +128,10 @@ public final class DoorBoundsTest {
             Check.noArgument("pass(" + days + ") on the last day", bank, () -> bank.pass(days));
         }
         Threeboxes other = new Threeboxes();
-        goTo(other, 634);
+        Banks.goTo(other, 634);
         Check.same("pass(365) to the last day", other.pass(365), 999);
         Threeboxes third = new Threeboxes();
-        goTo(third, 635);
+        Banks.goTo(third, 635);
         Check.noState("pass(365) beyond it", third, () -> third.pass(365));
     }
 

@@ -144,17 +144,11 @@ public final class RegisterBoundsTest {
         Check.same("a liar is NOTED by an opening that is not written", bank.ofKeeper(4, 4), 1);
     }
 
-    private static void goTo(Threeboxes bank, int day) {
-        while (bank.bank(2) < day) {
-            bank.pass(Math.min(365, day - bank.bank(2)));
-        }
-    }
-
     /** Refused openings of the secret 0 on the day 703: 5045 + 4921 + their number. */
     private static Threeboxes onDay703() {
         Threeboxes bank = Banks.ofZones(0);
         bank.deal(1, 1, 2, 0, 1);
-        goTo(bank, 703);
+        Banks.goTo(bank, 703);
         for (int n = 1; n <= 9; n++) {
             bank.open(0, 1);
         }
@@ -175,7 +169,7 @@ public final class RegisterBoundsTest {
         for (int n = 6; n < 63; n++) {
             last.open(0, 1);
         }
-        goTo(last, 999);
+        Banks.goTo(last, 999);
         last.open(5, 3);
         Check.same("the greatest LEAF: 6054 + 155 + 6993 + 63", last.ofEntry(63, 3), 13265 - 9973);
         Check.same("it is proved", last.proves(63, 13265 - 9973), true);
@@ -189,7 +183,7 @@ public final class RegisterBoundsTest {
             Check.same("LEAF of a DEAL", bank.ofEntry(s, 3), 31 * s + s);
         }
         for (int day : new int[] {0, 1, 999}) {
-            goTo(bank, day);
+            Banks.goTo(bank, day);
             for (int zone = 0; zone <= 3; zone++) {
                 int number = bank.bank(4);
                 bank.flood(zone);
