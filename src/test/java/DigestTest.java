@@ -26,7 +26,19 @@ public final class DigestTest {
         bank.knock();
         check("at the end", bank);
         Check.same("digest() changes nothing", bank.digest(), bank.digest());
+        theProductIsCutToAWholeNumber();
         Check.end();
+    }
+
+    /** One keeper of each risk: 40.96 times it comes near to a whole number from below (51: 2088.96) and above. */
+    private static void theProductIsCutToAWholeNumber() {
+        for (int risk = 0; risk <= 100; risk++) {
+            Threeboxes bank = new Threeboxes();
+            bank.keeper(0, 1, risk);
+            bank.deal(0, 1, 1, 0, 1);
+            Check.same("LOST by a RISK of " + risk, bank.lost(0), risk / 100.0);
+            check("a RISK of " + risk, bank);
+        }
     }
 
     private static void add(long v) {

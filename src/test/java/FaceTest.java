@@ -15,6 +15,10 @@ public final class FaceTest {
         "class java.lang.String row(int )", "int would(int int int )", "boolean may(int int int )",
         "double lost(int )", "int fewest(int )", "boolean proves(int int )", "boolean isSound()", "long digest()"};
 
+    private static final String INDEX = "IndexOutOfBoundsException ";
+    private static final String ARGUMENT = "IllegalArgumentException ";
+    private static final String STATE = "IllegalStateException ";
+
     public static void main(String[] args) {
         Class<?> it = Threeboxes.class;
         Check.same("public", Modifier.isPublic(it.getModifiers()), true);
@@ -28,7 +32,39 @@ public final class FaceTest {
         for (Field field : it.getDeclaredFields()) {
             Check.same("private: " + field.getName(), Modifier.isPrivate(field.getModifiers()), true);
         }
+        for (Method method : it.getDeclaredMethods()) {
+            if (Modifier.isPublic(method.getModifiers())) {
+                Check.same(method.getName() + " throws", thrownBy(method), dueOf(method.getName()));
+            }
+        }
         Check.end();
+    }
+
+    private static String thrownBy(Method method) {
+        StringBuilder text = new StringBuilder();
+        for (Class<?> one : method.getExceptionTypes()) {
+            text.append(one.getSimpleName()).append(' ');
+        }
+        return text.toString();
+    }
+
+    /** What the document writes behind throws, in its order. */
+    private static String dueOf(String name) {
+        switch (name) {
+            case "keeper": case "deal": case "pass":
+                return ARGUMENT + STATE;
+            case "fresh": case "rebuild":
+                return INDEX + ARGUMENT + STATE;
+            case "flood": case "freeze": case "proof": case "row": case "lost": case "fewest":
+                return INDEX;
+            case "lie": case "open": case "ofKeeper": case "ofSecret": case "share": case "ofEntry": case "would":
+            case "may": case "proves":
+                return INDEX + ARGUMENT;
+            case "bank":
+                return ARGUMENT;
+            default:
+                return "";
+        }
     }
 
     private static Set<String> methodsOf(Class<?> it) {
